@@ -616,7 +616,8 @@ public final class BoyBishop {
 
         private boolean isWord(String words, int from, int to) {
             for (int i = from; i < to; i++) {
-                if (!stands(place + i - from, words.charAt(i))) {
+                int at = place + i - from;
+                if (at >= length || bytes[at] != words.charAt(i)) {
                     return false;
                 }
             }
@@ -1034,7 +1035,7 @@ public final class BoyBishop {
             return tape.fault == 0;
         }
 
-        /** What binds less waits till the part behind it is whole; so do the two below. */
+        /** Since and binds more, an or waits till the part behind it is whole; so do + and - in a sum. */
         private void readTest(int depth) {
             boolean waits = false;
             readFact(depth);

@@ -37,6 +37,7 @@ public final class ModelTest {
             }
         }
         System.out.println("faults of choirs and rules by kind: " + Arrays.deepToString(FAULTS));
+        System.out.println("answers of 0 or more: " + Arrays.toString(good));
         System.out.println("ModelTest: " + RUNS + " runs are alike");
     }
 
