@@ -902,6 +902,7 @@ public final class BoyBishop {
         private final int[] testFrom;
         private final int[] clauseTo;
         private int clauses;
+        /** Eleven levels, each with an or and an and that wait, and two sums that are compared: 26 at most. */
         private final long[] stack;
 
         Rule() {
@@ -909,7 +910,7 @@ public final class BoyBishop {
             sumFrom = new int[MOST_CLAUSES];
             testFrom = new int[MOST_CLAUSES];
             clauseTo = new int[MOST_CLAUSES];
-            stack = new long[64];
+            stack = new long[32];
         }
 
         void clear() {

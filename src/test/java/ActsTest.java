@@ -11,6 +11,7 @@ public final class ActsTest {
         canon();
         farm();
         day();
+        lastDay();
         reign();
         snowAndFarms();
         visit();
@@ -115,6 +116,16 @@ public final class ActsTest {
         C.due("all voices broken", -1, Checks.days(Checks.of("choir 40 0;boy 1 5 1"), 3).day());
     }
 
+    /** Beyond the calls that an object is used for, but told. */
+    private static void lastDay() {
+        BoyBishop x = Checks.days(Checks.of("choir 40 0;boy 9 1 0;canon 20 1"), 998);
+        C.due("day 998", 0, x.day());
+        C.due("day 999", 999, x.count(7));
+        C.due("no day any more", -2, x.day());
+        C.due("it stays", 999, x.count(7));
+        C.due("days that are asked go on", -1, x.ahead(0, 1, 0));
+    }
+
     private static void reign() {
         BoyBishop x = Checks.of("choir 40 0;boy 9 1 0");
         for (int i = 0; i < 39; i++) C.due("day " + i + " of 40", 0, x.day());
@@ -165,6 +176,12 @@ public final class ActsTest {
         C.due("10 less 11 of a hundred, upwards", 8, x.visit(1));
         C.due("chest then", 27, x.count(10));
         C.due("to the boys then", 3, x.count(11));
+        x = Checks.days(Checks.of("choir 9 4;boy 9 17 0;farm 60 5;way 0 1 2"), 1);
+        C.due("60 less 17 of a hundred, upwards", 49, x.visit(0));
+        x = Checks.days(Checks.of("choir 9 4;boy 9 20 0;farm 60 5;way 0 1 2"), 1);
+        C.due("60 less 20 of a hundred", 48, x.visit(0));
+        x = Checks.days(Checks.of("choir 9 4;boy 9 1 0;farm 1 5;way 0 1 2"), 1);
+        C.due("1 less 1 of a hundred, upwards", 0, x.visit(0));
         x = Checks.of("choir 9 4;boy 9 0 0;farm 20 5;farm 20 5;farm 9 0;way 0 1 2;way 0 2 3;snow 3", "vote 1");
         x.day();
         C.due("six hours of four", -1, x.visit(1));

@@ -72,11 +72,27 @@ public final class ImagesTest {
         C.due("the share of then", 7, x.boy(1, 1));
         C.due("nothing can be undone", -1, x.undo());
         C.due("the note of then", 3, x.ruled(0));
+        x.note(0, 2);
+        C.due("one note more", 0, x.ruled(0));
+        x.note(-1, 0);
+        x.note(5, 0);
         x.end(0);
         x.day();
         x.promise(1, 3);
+        C.due("two acts", 2, x.count(17));
         C.due("back once more", 1, x.back(2));
         C.due("the image was not changed", 7, x.boy(1, 1));
         C.due("nor its day", 1, x.count(7));
+        C.due("nothing can be undone then", -1, x.undo());
+        x.note(0, 1);
+        x.back(2);
+        C.due("nor its note", 3, x.ruled(0));
+        x = Checks.of(Checks.CHOIR, "vote voice");
+        x.note(0, 2);
+        x.image(0);
+        x.note(-1, 0);
+        x.note(1, 0);
+        x.back(0);
+        C.due("the day and the boy of the note", 0, x.ruled(1));
     }
 }

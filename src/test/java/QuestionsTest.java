@@ -110,6 +110,11 @@ public final class QuestionsTest {
         methods("one is left", x, 1, 1, 1, 1);
         x.breaks(1);
         methods("all are broken", x, -1, -1, -1, -1);
+        for (int method = 0; method < 3; method++) {
+            C.due("asked at once " + method, method == 0 ? 1 : 0,
+                Checks.of(five + wish(0, 3, 2, 1) + wish(1, 3, 2, 1) + wish(2, 3, 2, 1) + wish(3, 1, 3, 2) + wish(4, 1, 3, 2)
+                    + ";snow 1").method(method));
+        }
         C.due("no such method", -2, x.method(3));
         C.due("method below 0", -2, x.method(-1));
         methods("sums below 0 are wants, too", Checks.of("choir 1 0;boy 1 0 0;boy 1 0 0", "vote boy-5"), -1, 1, 1, 1);
@@ -214,6 +219,9 @@ public final class QuestionsTest {
         x = Checks.of("choir 1 4;farm 5 0;farm 5 0;farm 5 0;way 0 1 2;way 0 2 1;way 0 3 1");
         C.due("the fewest hours", 10, x.round(0));
         C.due("two near ones", 6, x.round(1));
+        x = Checks.of("choir 1 4;farm 5 0;farm 5 0;farm 5 0;way 0 1 2;way 0 2 1;way 0 3 2");
+        C.due("as much, in fewer hours", 2, x.round(1));
+        C.due("two hours", 2, x.round(2));
         x = Checks.of("choir 1 3;farm 5 0;farm 5 0;way 0 1 1;way 0 2 1");
         C.due("the least as bits", 1, x.round(1));
         x = Checks.of("choir 1 24;farm 5 0;farm 0 0;farm 9 0;way 0 1 2;way 1 2 1");
@@ -255,6 +263,7 @@ public final class QuestionsTest {
         int left = 10000;
         for (int i = 0; i < 60; i++) left = left * 940 / 1000;
         C.due("in sixty days", 10000 - left, x.likely(1, 60));
+        C.due("21 of a thousand thrice, upwards", 618, Checks.of("choir 1 0;canon 21 0").likely(0, 3));
         C.due("in none", -1, x.likely(0, 0));
         C.due("in 61", -1, x.likely(0, 61));
         C.due("no such canon", -1, x.likely(2, 1));
@@ -362,6 +371,12 @@ public final class QuestionsTest {
         C.due("a reign of a day: nobody is ever bishop behind one", 2, x.look(1));
         x = Checks.of("choir 40 0;boy 9 0 0", "vote day/60");
         C.due("they part on the last day", 60, x.look(0));
+        x = Checks.of("choir 40 0;boy 9 0 0", "vote day");
+        C.due("they part on the day behind the first", 1, x.look(0));
+        x = Checks.of("choir 40 0;boy 9 0 0", "vote 0", "vote 0", "vote 0", "vote 0", "vote 0", "vote 1");
+        C.due("seven by which nobody is bishop, but one", 6, x.look(1));
+        x.note(5, 0);
+        C.due("the last rule", 5, x.ruled(1));
     }
 
     private static void seed() {
@@ -397,6 +412,7 @@ public final class QuestionsTest {
         for (int[] bad : new int[][] {{0, 1, 0, 0}, {11, 1, 0, 0}, {1, 0, 0, 0}, {1, 61, 0, 0}, {1, 1, -1, 0}, {1, 1, 101, 0}, {1, 1, 0, 2}, {1, 1, 0, -1}}) {
             C.due("winters" + java.util.Arrays.toString(bad), -1, x.winters(bad[0], bad[1], bad[2], bad[3]));
         }
+        C.due("a voice of 1 breaks, too", 1, Checks.of("choir 1 0;boy 1 0 0").winters(1, 1, 1, 1));
         C.due("the most of all", 20, x.winters(10, 60, 0, 0));
     }
 

@@ -133,8 +133,40 @@ public final class TextsTest {
         C.due("nobody by the third method", -1, x.method(2));
         C.due("a day without boys", -1, x.day());
         C.due("the empty round", 0, x.round(1));
+        leftovers();
         C.due("forty clauses", 0, Checks.choir(x, "choir 1 0" + ";snow 0".repeat(39)));
         C.due("all that there may be", 6, Checks.choir(x, "choir 1 0" + ";boy 1 0 0".repeat(6) + ";canon 20 0".repeat(4) + ";farm 0 0".repeat(6)));
+    }
+
+    /** Neither a text with a fault nor the choir there was may leave anything to the next one. */
+    private static void leftovers() {
+        BoyBishop x = Checks.of("choir 40 9;boy 9 20 0;canon 99 1;farm 20 0;way 0 1 1;snow 3");
+        Checks.days(x, 11);
+        C.due("a visit", 16, x.visit(0));
+        x.breaks(0);
+        C.due("a fault behind much", fault(68, 0), Checks.choir(x,
+            "choir 1 1;boy 1 0 0;boy 1 0 0;likes 0 1 9;farm 1 1;canon 50 1;snow 0"
+            + "!"));
+        C.due("no more than told", 2, Checks.choir(x, "choir 40 9;boy 9 1 0;boy 9 0 0;likes 0 1 0;farm 7 0;canon 99 1"));
+        C.due("likes", 0, x.likes(0, 1));
+        C.due("farms", 1, x.count(4));
+        C.due("canons", 1, x.count(3));
+        C.due("no way", -1, x.farm(0, 3));
+        int[] due = {0, -1, -1, 0, 0, 0, 0, 0, 0};
+        for (int what = 7; what < 16; what++) C.due("begun anew: count(" + what + ")", due[what - 7], x.count(what));
+        C.due("never bishop", 0, x.boy(0, 3));
+        C.due("lives", 99, x.canon(0, 0));
+        C.due("not free", 0, x.canon(0, 2));
+        for (int i = 0; i < 4; i++) {
+            C.due("no snow " + i, 0, x.count(13));
+            x.day();
+        }
+        C.due("a rule with a fault behind much", fault(24, 0), Checks.rule(x, "vote 7;vote 8 if 1=1 and"));
+        C.due("the rule behind it", 0, Checks.rule(x, "vote 1 if boy=1" + ";vote 0".repeat(11)));
+        x.force(0);
+        C.due("has nothing of it", 1, x.votes(0, 2));
+        C.due("sixty parts are counted anew", 1, Checks.rule(x, "vote 1" + "+1".repeat(59)));
+        C.due("and anew", 2, Checks.rule(x, "vote 1" + "+1".repeat(59)));
     }
 
     private static void choirFaults() {
@@ -295,6 +327,9 @@ public final class TextsTest {
             String contrary = "vote 1 if boy=1 and not[" + test + "]";
             C.due("not " + test, -1, Checks.of("choir 1 0;boy 9 0 0;boy 9 0 0", contrary).votes(0, 2));
         }
+        String deep = "vote boy if " + "1=2 or 1=1 and [".repeat(9);
+        C.due("all that waits, and it holds", 1, Checks.of("choir 1 0;boy 9 0 0;boy 9 0 0", deep + "1+1*1=2" + "]".repeat(9)).votes(0, 2));
+        C.due("all that waits, and it does not", -1, Checks.of("choir 1 0;boy 9 0 0;boy 9 0 0", deep + "1+1*1=3" + "]".repeat(9)).votes(0, 2));
         C.due("the first clause that holds", 1, Checks.of("choir 1 0;boy 9 0 0;boy 9 0 0",
             "vote 3 if boy=2;vote 1 if boy=0;vote 2 if boy=1;vote 9 if boy=0;vote 8").votes(0, 2));
         C.due("a clause that holds hides those behind it", -1, Checks.of("choir 1 0;boy 9 0 0", "vote 0;vote 5").votes(0, 2));
@@ -321,6 +356,12 @@ public final class TextsTest {
         x.visit(0);
         x.force(0);
         C.due("who was bishop", 0, x.votes(1, 0));
+        x = Checks.of("choir 2 10;boy 50 0 0;boy 50 10 0;farm 20 0;way 0 1 1", "vote was*10+1", "vote chest");
+        x.force(-1);
+        x.day();
+        x.visit(0);
+        x.force(0);
+        C.due("who was bishop is not the first", 1, x.votes(0, 0));
         x.force(1);
         C.due("what is in the chest", 18, x.count(10));
         C.due("votes by the chest", 0, x.votes(1, 0));
