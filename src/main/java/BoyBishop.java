@@ -382,14 +382,12 @@ public final class BoyBishop {
     }
 
     public int note(int n, int boy) {
-        if (!now.choir.told) {
-            return ABSENT;
-        }
+        // only a note that is to be told needs a choir: that there are none may be said without
         if (n == NONE) {
             now.notes = 0;
             return 0;
         }
-        if (n < 0 || n > LAST_DAY_ASKED || boy != NONE && !isBoy(boy) || now.notes >= MOST_NOTES) {
+        if (!now.choir.told || n < 0 || n > LAST_DAY_ASKED || boy != NONE && !isBoy(boy) || now.notes >= MOST_NOTES) {
             return ABSENT;
         }
         now.noteDay[now.notes] = n;

@@ -630,9 +630,8 @@ final class Model {
     }
 
     int note(int n, int b) {
-        if (!told()) return -2;
         if (n == -1) { notes.clear(); return 0; }
-        if (!in(n, 0, 60) || b != -1 && !isBoy(b) || notes.size() == 10) return -2;
+        if (!told() || !in(n, 0, 60) || b != -1 && !isBoy(b) || notes.size() == 10) return -2;
         notes.add(new Note(n, b));
         return notes.size();
     }

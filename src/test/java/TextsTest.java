@@ -49,7 +49,10 @@ public final class TextsTest {
         C.due("new: likely", -1, x.likely(0, 1));
         C.due("new: best", -1, x.best(0));
         C.due("new: note", -2, x.note(0, -1));
-        C.due("new: no notes", -2, x.note(-1, -1));
+        C.due("new: no notes", 0, x.note(-1, -1));
+        C.due("new: no notes of a boy that is not there", 0, x.note(-1, 9));
+        C.due("new: and still no note", -2, x.note(0, -1));
+        C.due("new: nor any told", 0, x.count(16));
         C.due("new: ruled", -3, x.ruled(0));
         C.due("new: look", -1, x.look(0));
         C.due("new: winters", -1, x.winters(1, 1, 0, 0));
