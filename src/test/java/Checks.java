@@ -27,6 +27,9 @@ final class Checks {
         if (wrong > 0) System.exit(1);
     }
 
+    /** What choir and rule answer for a fault of a kind at a place. */
+    static int fault(int place, int kind) { return -2 - (1 + 8 * place + kind); }
+
     static void say(BoyBishop x, String text) {
         byte[] bytes = text.getBytes(StandardCharsets.ISO_8859_1);
         x.end(0);

@@ -19,7 +19,7 @@ public final class TextsTest {
         C.finish();
     }
 
-    private static int fault(int place, int kind) { return -2 - (1 + 8 * place + kind); }
+    private static int fault(int place, int kind) { return Checks.fault(place, kind); }
 
     private static void aNewObject() {
         C.due("NONE", -1, BoyBishop.NONE);
