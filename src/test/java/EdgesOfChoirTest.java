@@ -365,7 +365,7 @@ public final class EdgesOfChoirTest {
             }
             if (b != ' ') fault((char) b + "choir 1 0", 0, 0);
         }
-        for (String word : new String[] {"choi", "choirr", "boys", "bo", "like", "canons", "farms", "ways", "snows", "vote", "x"}) {
+        for (String word : new String[] {"choi", "choirr", "boya", "boyz", "boys", "bo", "like", "canons", "farms", "ways", "snows", "vote", "x"}) {
             fault("choir 1 0; " + word + " 1 0 0", 11, 0);
         }
         fault("choir 1 0:boy 1 0 0", 9, 0);
@@ -412,6 +412,13 @@ public final class EdgesOfChoirTest {
         C.due("what is left of it is a choir", 2, x.choir());
         C.due("its reign", 9, x.count(0));
         C.due("its fade", 1, x.boy(1, 2));
+        C.due("a fault behind all kinds of clauses", Checks.fault(91, 0), Checks.choir(x,
+            "choir 9 9;boy 1 2 3;boy 1 2 3;likes 0 1 9;likes 1 1 9;canon 99 9;farm 9 9;way 0 1 1;snow 0;!"));
+        C.due("leaves nothing to the next text", 2, Checks.choir(x, "choir 9 9;boy 1 2 3;boy 1 2 3;farm 1 1"));
+        C.due("no likes", 0, x.likes(0, 1) + x.likes(1, 1));
+        C.due("no canon", 0, x.count(3));
+        C.due("no way", -1, x.farm(0, 3));
+        C.due("no snow", 0, x.count(13));
     }
 
     /** "The TAPE, which is empty then, is the CHOIR in place of the one there was (no NOTES, nothing to be UNDONE; the RULE IN FORCE and x stay)" */

@@ -253,6 +253,7 @@ public final class EdgesOfDaysTest {
         C.due("acts still", 20, x.count(17));
         C.due("ahead of it he is bishop", 0, x.ahead(0, 2, 0));
         C.due("and not the day ahead of that", -1, x.ahead(0, 1, 0));
+        C.due("a vote on every second day of a winter", 30, x.winters(1, 60, 0, 0));
         C.due("undone", 19, x.undo());
         C.due("and a day again", 0, x.day());
     }

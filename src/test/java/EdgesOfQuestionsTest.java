@@ -37,6 +37,7 @@ public final class EdgesOfQuestionsTest {
         wintersBelowP();
         wintersRefused();
         wintersAllTogether();
+        allThatThereMayBe();
         counts();
         images();
         C.finish();
@@ -260,6 +261,8 @@ public final class EdgesOfQuestionsTest {
         C.due("five of six", 47, Checks.of("choir 1 11" + star).round(1));
         C.due("one of six", 32, Checks.of("choir 1 3" + star).round(1));
         C.due("none of six", 0, Checks.of("choir 1 1" + star).round(1));
+        C.due("one that has laid by 1", 1, Checks.of("choir 1 2;farm 1 0;way 0 1 1").round(1));
+        C.due("one that has laid by 0", 0, Checks.of("choir 1 2;farm 0 0;way 0 1 1").round(1));
         for (int what : new int[] {-1, 3, MOST, LEAST}) C.due("round(" + what + ")", -1, Checks.of("choir 1 12" + star).round(what));
         C.due("without a choir", -1, new BoyBishop().round(0));
         for (int what = 0; what < 3; what++) C.due("without farms: " + what, 0, Checks.of("choir 1 12").round(what));
@@ -587,6 +590,35 @@ public final class EdgesOfQuestionsTest {
         x.day();
         C.due("from now on there is a bishop", 0, x.winters(1, 39, 0, 0));
         C.due("and then a vote", 1, x.winters(1, 40, 0, 0));
+        C.due("the draws of a winter go on behind those of the one ahead of it: 0, then 68", 1, x.winters(2, 1, 68, 1));
+        C.due("0 and 68", 2, x.winters(2, 1, 69, 1));
+    }
+
+    /** Six boys, four canons and six farms by days and by all that is asked: the last of each is one of them. */
+    private static void allThatThereMayBe() {
+        BoyBishop x = Checks.of("choir 2 24;boy 9 1 0;boy 9 2 0;boy 9 3 0;boy 9 4 0;boy 9 5 0;boy 9 6 1;canon 99 1;canon 99 2;canon 99 3;canon 98 4;"
+            + "farm 9 1;farm 9 1;farm 9 1;farm 9 1;farm 9 1;farm 9 4;way 0 6 2;way 6 5 1");
+        C.due("the last boy is chosen", 5, x.day());
+        C.due("and goes to the last farm", 8, x.visit(5));
+        x.day();
+        C.due("which lays by", 4, x.farm(5, 2));
+        C.due("the round to it and the one behind it", 13, x.round(0));
+        C.due("as bits", 48, x.round(1));
+        C.due("laid by in three days", 9, x.ahead(5, 3, 2));
+        C.due("his voice in three days", 4, x.ahead(5, 3, 1));
+        C.due("his votes", 6, x.votes(5, 1));
+        C.due("his points", 5, x.method(0));
+        C.due("ahead of each", 5, x.method(1));
+        C.due("the last left", 5, x.method(2));
+        C.due("his least", 6, x.least(5));
+        C.due("another's fewest", 3, x.winOver(4, 0));
+        C.due("rests: one is chosen by as much as the other", 3, x.rests(4, 5, 0));
+        Checks.days(x, 9);
+        C.due("the last canon alone lives", 3, x.best(0));
+        C.due("and falls", 19, x.falls(3, 9));
+        C.due("the last boy is broken", 32, x.count(15));
+        C.due("voices broken in winters", 10 * 6, x.winters(10, 60, 100, 1));
+        C.due("nobody is wanted as he was", 4, x.votes(5, 0));
     }
 
     private static void counts() {

@@ -80,6 +80,10 @@ public final class EdgesOfRulesTest {
         C.due("what is left of it is a rule", 1, x.rule());
         C.due("that is in force", 0, x.force(1));
         C.due("all for the least", 0, x.votes(1, 2));
+        for (int i = 0; i < 20; i++) Checks.rule(x, "vote boy" + "+1".repeat(58) + "!");
+        C.due("no fault leaves anything to the next rule", 2, Checks.rule(x, "vote 1+1 if boy=0;vote boy*3"));
+        x.force(2);
+        C.due("which is as told", 1, x.votes(0, 2));
     }
 
     /** Promise 4 keeps the rules by another choir, and images have none of them. */
@@ -156,6 +160,10 @@ public final class EdgesOfRulesTest {
             good("vote " + word);
             good("vote1 if" + " " + word + "=" + word);
             fault("vote " + word + "x", 5, 0);
+            fault("vote " + word + "a", 5, 0);
+            fault("vote " + word + "z", 5, 0);
+            fault("vote " + word + "`", 5 + word.length(), 0);
+            fault("vote " + word + "{", 5 + word.length(), 0);
             if (!word.equals("boys")) fault("vote " + word.substring(0, word.length() - 1), 5, 0);
             fault("vote " + word.toUpperCase(), 5, 0);
             fault("vote " + word + "1", 5 + word.length(), 0);
@@ -164,6 +172,9 @@ public final class EdgesOfRulesTest {
         }
         for (String word : new String[] {"vote", "if", "or", "and", "not", "choir", "canon", "farm", "bishop"}) fault("vote " + word, 5, 0);
         fault("votevoice", 0, 0);
+        fault("votez 1", 0, 0);
+        fault("vote 1 vote 2", 7, 0);
+        fault("vote 1 if 1=1 vote 2", 14, 0);
         fault("vote 1 ifvoice=1", 7, 0);
         fault("vote 1 if 1=1 andvoice=1", 14, 0);
         fault("vote 1 if notvoice=1", 10, 0);
