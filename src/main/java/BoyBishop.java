@@ -627,7 +627,7 @@ public final class BoyBishop {
             int from = place;
             int to = from;
             int number = 0;
-            while (isDigitAt(to)) {
+            while (to < length && isDigitAt(to)) {
                 // what is behind the fifth digit is a fault whatever it is, and must not go round
                 if (to - from < MOST_DIGITS) {
                     number = number * 10 + bytes[to] - '0';

@@ -76,7 +76,9 @@ public final class LanguageTest {
         String code = text.replaceAll("(?s)/\\*.*?\\*/", "").replaceAll("//[^\n]*", "");
         for (String bad : new String[] {"\\bthrow\\b", "\\btry\\b", "\\bcatch\\b", "\\bsynchronized\\b", "\\bassert\\b", "->", "::",
             "Exact\\(", "System\\.(?!arraycopy\\()", "import (?!java\\.util\\.Arrays;)", "\\bdouble\\b", "\\bfloat\\b", "\\bObject\\b",
-            "hashCode", "toString", "\\bwhile \\(true\\)", "for \\(;;\\)", "\" \\+", "\\+ \"", "[^\\x00-\\x7f]", "\\bprotected\\b",
+            "hashCode", "toString", "\" \\+", "\\+ \"", "[^\\x00-\\x7f]", "\\bprotected\\b",
+            // a loop's end is to be seen from its own lines
+            "\\bwhile \\((?!\\w+ < length && )", "\\bdo \\{", "\\bfor \\((?!int \\w+ = [\\w ]+; \\w+ [<>]=? )",
             "static (?!final|int |long |boolean |void )", "Math\\.(?!min\\(|max\\()", "Integer\\.(?!bitCount\\()", "Arrays\\.(?!fill\\()"}) {
             Matcher m = Pattern.compile(bad).matcher(code);
             must(!m.find(), "no " + bad);
