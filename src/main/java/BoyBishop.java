@@ -193,8 +193,12 @@ public final class BoyBishop {
         if (!isBoy(boy) || share < 0 || share > MOST_SHARE) {
             return NONE;
         }
-        past.keep(now.standing);
         int was = now.standing.share[boy];
+        // the share that he has is not another one
+        if (share == was) {
+            return NONE;
+        }
+        past.keep(now.standing);
         now.standing.share[boy] = share;
         return was;
     }

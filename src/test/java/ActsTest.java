@@ -206,6 +206,11 @@ public final class ActsTest {
         C.due("nothing happened", 2, x.count(17));
         x.breaks(1);
         C.due("one whose voice is broken may, too", 10, x.promise(1, 3));
+        C.due("the share that he has is not another one", -1, x.promise(1, 3));
+        C.due("no act by it", 4, x.count(17));
+        C.due("undone is the promise ahead of it", 3, x.undo());
+        C.due("the one he has again", -1, x.promise(1, 10));
+        C.due("what was undone is another one again", 10, x.promise(1, 3));
     }
 
     private static void give() {

@@ -32,6 +32,7 @@ public final class EdgesOfDaysTest {
         shareUpwards();
         visitRefused();
         promiseFromNoneToTwenty();
+        promiseOfTheSame();
         giveRefused();
         giveOnce();
         breakOnce();
@@ -385,6 +386,7 @@ public final class EdgesOfDaysTest {
         for (int share = 0; share <= 20; share++) {
             C.due("promise " + share, was, x.promise(0, share));
             C.due("is " + share, share, x.boy(0, 1));
+            C.due(share + " is not another one", -1, x.promise(0, share));
             was = share;
         }
         for (int bad : new int[] {-1, 21, MOST, LEAST}) C.due("promise " + bad, -1, x.promise(0, bad));
@@ -392,6 +394,33 @@ public final class EdgesOfDaysTest {
         C.due("nothing happened", 20, x.boy(0, 1));
         C.due("nor to the other", 8, x.boy(1, 1));
         C.due("acts", 20, x.count(17));
+    }
+
+    /** "a BOY another SHARE": not the one that he has, by whatever he came to it */
+    private static void promiseOfTheSame() {
+        BoyBishop x = Checks.of("choir 9 0;boy 9 0 0;boy 9 20 0;boy 9 7 9");
+        C.due("0, as the text told it", -1, x.promise(0, 0));
+        C.due("20, as the text told it", -1, x.promise(1, 20));
+        C.due("no act", -1, x.undo());
+        C.due("another boy's share is another one", 7, x.promise(2, 20));
+        C.due("his own is not", -1, x.promise(2, 20));
+        C.due("what he had is another one", 20, x.promise(2, 7));
+        C.due("two acts", 2, x.count(17));
+        x.day();
+        C.due("broken: the one that he has", -1, x.promise(2, 7));
+        C.due("broken: another one", 7, x.promise(2, 6));
+        C.due("image", 1, x.image(0));
+        x.promise(2, 5);
+        C.due("back", 1, x.back(0));
+        C.due("of the image: the one that he has", -1, x.promise(2, 6));
+        C.due("nothing to be undone", -1, x.undo());
+        C.due("of the image: another one", 6, x.promise(2, 5));
+        C.due("undone", 0, x.undo());
+        C.due("undone: the one that he has again", -1, x.promise(2, 6));
+        for (int i = 0; i < 20; i++) x.promise(0, 1 + i % 2);
+        for (int i = 0; i < 5; i++) C.due("behind twenty acts", -1, x.promise(0, 2));
+        for (int i = 19; i >= 0; i--) C.due("each of the twenty can be undone", i, x.undo());
+        C.due("as ahead of them", 0, x.boy(0, 1));
     }
 
     /** "there is a BISHOP, a CANON who lives has a PREBEND that is free besides his" */

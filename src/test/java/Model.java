@@ -442,7 +442,7 @@ final class Model {
     }
 
     int promise(int b, int share) {
-        if (!isBoy(b) || !in(share, 0, 20)) return -1;
+        if (!isBoy(b) || !in(share, 0, 20) || state.share[b] == share) return -1;
         act();
         int was = state.share[b];
         state.share[b] = share;

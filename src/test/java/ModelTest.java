@@ -98,7 +98,7 @@ public final class ModelTest {
         else switch (name) {
             case "ahead", "falls", "likely" -> a[1] = random.nextInt(70) - 4;
             case "give" -> { a[0] = random.nextInt(4); a[1] = random.nextInt(4); }
-            case "promise" -> a[1] = random.nextInt(24) - 1;
+            case "promise" -> a[1] = random.nextInt(4) == 0 ? bishop.boy(a[0], 1) : random.nextInt(24) - 1;
             case "note" -> { a[0] = random.nextInt(66) - 2; if (random.nextBoolean()) a[1] = bishop.count(8); }
             case "winters" -> { a[0] = random.nextInt(12); a[1] = random.nextInt(63); a[2] = random.nextInt(105) - 2; a[3] = random.nextInt(3); }
             case "count" -> a[0] = random.nextInt(23) - 1;

@@ -26,9 +26,10 @@ public final class NothingHappensTest {
         // promise 12: no bishop, has been out, no such farm, too far by snow
         "new|visit 0|-1", "begin|visit 0|-1", "out|visit 0|-1", "out|visit 1|-1", "bishop|visit 1|-1", "bishop|visit 2|-1",
         "bishop|visit -1|-1", "broken|visit 0|-1", "nobody|visit 0|-1", "dead|visit 1|-1",
-        // promise 13: no such boy, no such share
+        // promise 13: no such boy, no such share, the share that he has
         "new|promise 0 5|-1", "begin|promise 0 21|-1", "begin|promise 0 -1|-1", "begin|promise 3 5|-1", "begin|promise -1 5|-1",
-        "nobody|promise 0 5|-1", "full|promise 6 0|-1",
+        "nobody|promise 0 5|-1", "full|promise 6 0|-1", "begin|promise 0 5|-1", "begin|promise 2 0|-1", "bishop|promise 1 10|-1",
+        "out|promise 1 3|-1", "dead|promise 0 10|-1", "full|promise 0 2|-1", "broken|promise 0 5|-1", "broken|promise 2 0|-1",
         // promise 14: no bishop, not free, not dead, not alive
         "new|give 0 1|-1", "begin|give 0 1|-1", "bishop|give 0 1|-1", "dead|give 1 2|-1", "dead|give 0 0|-1", "dead|give 0 3|-1",
         "dead|give 4 1|-1", "dead|give -1 1|-1", "dead|give 0 4|-1", "dead|give 0 -1|-1", "dead|give 1 1|-1", "nobody|give 0 1|-1",
@@ -121,7 +122,7 @@ public final class NothingHappensTest {
     /** What is looked at later is enough to see each thing that may happen: else the tests above would see nothing. */
     private static void somethingHappens() {
         for (String row : new String[] {"fed|end 9", "fed|rule", "begin|rule", "begin|force 1", "begin|force -1", "begin|day", "bishop|day",
-            "bishop|visit 0", "dead|visit 0", "begin|promise 2 1", "begin|promise 0 5", "dead|give 0 1", "dead|give 3 2", "begin|breaks 1",
+            "bishop|visit 0", "dead|visit 0", "begin|promise 2 1", "begin|promise 0 4", "out|promise 1 10", "full|promise 0 3", "dead|give 0 1", "dead|give 3 2", "begin|breaks 1",
             "out|undo", "full|undo", "begin|note 1 0", "begin|note -1 0", "full|note -1 0", "begin|seed 6", "begin|image 3", "begin|image 0",
             "out|back 1", "full|choir", "bishop|choir", "new|feed 0 0 0 0 0", "nobody|day", "new|image 0"}) {
             String[] parts = row.split("\\|");
